@@ -14,10 +14,10 @@ public final class GritWatch {
     private static final int MOST_IN_HOPPER = 90;
     private static final int MOST_HOURS = 40;
     private static final int MOST_WATER = 8;
-    private static final int LOWEST_POINT = -21;
+    private static final int DEEPEST_POINT = 21;
     private static final int MOST_SALT_AT_ONCE = 60;
     private static final int MOST_IN_ROW = 6;
-    private static final int FAR = Integer.MAX_VALUE;
+    private static final int FAR = 1000000000;
 
     private final Road[] roads = new Road[MOST_ROADS];
     private final Lorry[] lorries = new Lorry[MOST_LORRIES];
@@ -624,7 +624,8 @@ public final class GritWatch {
 
         int point() {
             int wet = water + ice + snow;
-            return wet <= 0 ? 0 : Math.max(LOWEST_POINT, -(6 * salt / wet));
+            int depth = wet <= 0 ? 0 : 6 * salt / wet;
+            return depth > DEEPEST_POINT ? -DEEPEST_POINT : -depth;
         }
 
         void comeNearer(int goal, int most) {
@@ -870,9 +871,9 @@ public final class GritWatch {
     }
 
     /**
-     * Finds the best row of roads along all of the class 0. All rows of one road are looked at, then all of two, and
-     * so on; of those that end at the same node and have gone along the same roads of the class 0, only the best can
-     * begin a best row, so only that is kept.
+     * The best row of roads along all of the class 0. Of the rows with equally many roads that end at the same node
+     * and have gone along the same roads of the class 0, only the best can begin a best row: so only that is kept, and
+     * the work stays small however many rows there are.
      */
     private static final class Rows {
         // length times BASE, and the digits: one comparison finds the shorter, then the smaller of rows of equal count
